@@ -14,6 +14,8 @@ public final class BillsTest {
         latestEndorserFirst();
         holderIsLiableHimself();
         holderFailed();
+        nobodyIsLiable();
+        theLastBillHasAllItsEndorsers();
         byRisingNumbers();
         due.end();
     }
@@ -188,6 +190,37 @@ public final class BillsTest {
         due.is("it came due", x.holderOf(0), -1);
         due.is("nothing is lost by it", x.lost(), 1);
         due.is("isSound()", x.isSound(), true);
+    }
+
+    /** All who answer for the bill failed: the one on whom it was drawn, and the drawer, who endorsed it. */
+    private static void nobodyIsLiable() {
+        Harbourmint x = States.harbour();
+        x.addHouse('b');
+        x.draw(1, 4, 8, 1);
+        x.endorse(0, 2);
+        States.breakBank(x, 1, 3);
+        States.breakBank(x, 4, 3);
+        due.is("nothing is claimed", x.nextDay(), 0);
+        due.is("wealth(2)", x.wealth(2), 0);
+        due.is("it came due", x.holderOf(0), -1);
+    }
+
+    private static void theLastBillHasAllItsEndorsers() {
+        Harbourmint x = States.harbour();
+        x.addHouse('b');
+        for (int bill = 0; bill < 12; bill++) {
+            x.draw(1, 4, 1 + bill, 9);
+        }
+        for (int to : new int[] {4, 1, 3, 1, 2}) {
+            x.endorse(11, to);
+        }
+        States.breakBank(x, 1, 2);
+        States.breakBank(x, 4, 2);
+        for (int day = 1; day < 9; day++) {
+            x.nextDay();
+        }
+        due.is("nextDay()", x.nextDay(), 1);
+        due.is("the fourth endorser answers", x.claim(2, 3), 12);
     }
 
     private static void byRisingNumbers() {

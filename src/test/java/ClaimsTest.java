@@ -17,6 +17,8 @@ public final class ClaimsTest {
         failPartsByTheGreatestClaim();
         failLosesWhatIsLeft();
         failLeavesTheRestToTheCrown();
+        failLeavesALightFirstCoinToTheCrown();
+        failPartsAsManyCoinsAsThereCanBe();
         failOfABankThatHasClaims();
         due.end();
     }
@@ -251,6 +253,7 @@ public final class ClaimsTest {
 
     private static void failLeavesTheRestToTheCrown() {
         Harbourmint x = States.minted(1, 'g', 3);
+        x.dig(2, 'g', 11);
         x.dig(1, 'g', 4);
         x.dig(1, 's', 6);
         x.dig(0, 's', 1);
@@ -267,10 +270,37 @@ public final class ClaimsTest {
         due.is("gold ore", x.ore(0, 'g'), 4);
         due.is("silver ore", x.ore(0, 's'), 7);
         due.is("ore of the bank", x.ore(1, 'g') + x.ore(1, 's'), 0);
+        due.is("ore of the next house", x.ore(2, 'g'), 11);
         due.is("coins of the bank", x.coins(1, 'g'), 0);
         due.is("wealth of the bank", x.wealth(1), 0);
         due.is("lost()", x.lost(), 0);
         due.is("isSound()", x.isSound(), true);
+    }
+
+    private static void failLeavesALightFirstCoinToTheCrown() {
+        Harbourmint x = States.minted(1, 'g', 2);
+        x.clip(0, 1);
+        x.lend(1, 2, 1);
+        due.is("withdraw", x.withdraw(2, 1, 's', 1), 'x');
+        due.is("the heavy coin", x.ownerOf(1), 2);
+        due.is("the light coin", x.ownerOf(0), 0);
+        due.is("coins of the crown", x.coins(0, 'g'), 1);
+        due.is("ore of the crown", x.ore(0, 'g'), 1);
+    }
+
+    private static void failPartsAsManyCoinsAsThereCanBe() {
+        Harbourmint x = States.minted(1, 's', 90);
+        x.lend(1, 3, 900);
+        due.is("withdraw", x.withdraw(3, 1, 'g', 90), 'x');
+        due.is("coins of the creditor", x.coins(3, 's'), 90);
+        due.is("lost()", x.lost(), 810);
+        due.is("pay 90", x.pay(3, 2, 's', 90), 450);
+        due.is("owners(89)", x.owners(89), 3);
+        due.is("lightShare()", x.lightShare(), 0.0f);
+        due.is("meanWeight()", x.meanWeight(), 5.0);
+        due.is("isSound()", x.isSound(), true);
+        due.is("recoin", x.recoin(2, 's'), 0);
+        due.is("isSound() without a coin", x.isSound(), true);
     }
 
     private static void failOfABankThatHasClaims() {

@@ -4,6 +4,7 @@ public final class FiguresTest {
 
     public static void main(String[] args) {
         lightShare();
+        lightShareOfEachOne();
         meanWeight();
         none();
         isSound();
@@ -33,6 +34,14 @@ public final class FiguresTest {
         x.decree('g', 1, 9);
         x.clip(7, 1);
         due.is("a new one that was clipped", x.lightShare(), 1.0f / 5.0f);
+    }
+
+    private static void lightShareOfEachOne() {
+        Harbourmint x = States.minted(2, 'g', 3);
+        for (int coin = 0; coin < 3; coin++) {
+            x.clip(coin, 1);
+            due.is("light up to coin " + coin, x.lightShare(), (1.0f + coin) / 3.0f);
+        }
     }
 
     private static void meanWeight() {

@@ -96,6 +96,8 @@ public final class VoyagesTest {
         Harbourmint x = States.harbour();
         x.addShare(3, 2, 99);
         due.is("who is alone bears all", x.throwOver(3, 2, 99), 99);
+        x.addShare(2, 3, 1);
+        due.is("with the least share, too", x.throwOver(2, 3, 7), 7);
         due.is("wealth(2)", x.wealth(2), 0);
     }
 
