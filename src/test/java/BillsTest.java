@@ -79,7 +79,6 @@ public final class BillsTest {
         due.isThrown(Wrong.STATE, "a sixth, to one that failed", () -> x.endorse(0, 1));
         x.nextDay();
         due.isThrown(Wrong.STATE, "endorse what came due", () -> x.endorse(0, 2));
-        due.isThrown(Wrong.STATE, "endorse what came due to who held it", () -> x.endorse(0, 0));
         due.isThrown(Wrong.INDEX, "endorse what came due to 4", () -> x.endorse(0, 4));
     }
 

@@ -1,7 +1,19 @@
+import java.util.Arrays;
+
 /** Counts the calls whose answer is not the one that is due, and prints each of them. */
 final class Due {
     private int asked;
     private int wrong;
+    private String about = "";
+
+    /** What stands ahead of each wrong answer that is printed from now on. */
+    void about(String text) {
+        about = text;
+    }
+
+    int asked() {
+        return asked;
+    }
 
     void is(String call, long got, long due) {
         asked++;
@@ -31,6 +43,14 @@ final class Due {
         }
     }
 
+    /** Where the document leaves it open, what is due names each of the answers: "this or that". */
+    void isOneOf(String call, String got, String due) {
+        asked++;
+        if (!Arrays.asList(due.split(" or ")).contains(got)) {
+            tell(call, got, due);
+        }
+    }
+
     /** The very class counts: what the machine throws is of a class below the one that is due. */
     void isThrown(Class<? extends RuntimeException> due, String call, Runnable doing) {
         asked++;
@@ -48,7 +68,8 @@ final class Due {
     private void tell(String call, String got, String due) {
         wrong++;
         if (wrong <= 50) {
-            System.out.println(call + " answered " + got + ", due is " + due);
+            String start = about.isEmpty() ? "" : about + "\n    ";
+            System.out.println(start + call + " answered " + got + ", due is " + due);
         }
     }
 

@@ -275,8 +275,10 @@ final class Model {
                     return INDEX;
                 }
                 Bill bill = bills.get(a);
-                return first(!bill.cameDue && bill.holder() == b, ARGUMENT,
-                        bill.cameDue || gone(b, bill.holder()), STATE, bill.holders.size() > 5, UNSUPPORTED);
+                // Whether who held a bill when it came due still is its holder, the document leaves open.
+                return first(bill.cameDue && bill.holder() == b, STATE + " or " + ARGUMENT,
+                        bill.holder() == b, ARGUMENT, bill.cameDue || gone(b, bill.holder()), STATE,
+                        bill.holders.size() > 5, UNSUPPORTED);
             case "holderOf":
                 return first(noBill, INDEX);
             case "addShare":

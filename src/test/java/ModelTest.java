@@ -41,10 +41,9 @@ public final class ModelTest {
             if (call.equals("mint") && below(4) < rareMints) {
                 continue;
             }
-            String want = model.answer(call, of[0], of[1], of[2], of[3], m);
-            String got = answer(x, call, of, m);
-            due.is("run " + run + ", call " + n + ", " + call + " " + of[0] + " " + of[1] + " " + of[2] + " "
-                    + of[3] + " " + m, got, want);
+            Call asked = new Call(call, m, of);
+            String got = asked.ask(x);
+            due.isOneOf("run " + run + ", call " + n + ", " + asked, got, asked.ask(model));
             note(call, got);
         }
     }
@@ -107,50 +106,6 @@ public final class ModelTest {
                 return place == 0 ? below(4) : place == 1 ? below(6) : 1 + below(99);
             default:
                 return below(6);
-        }
-    }
-
-    private static String answer(Harbourmint x, String call, int[] of, char m) {
-        try {
-            return String.valueOf(asked(x, call, of[0], of[1], of[2], of[3], m));
-        } catch (RuntimeException e) {
-            return e.getClass().getSimpleName();
-        }
-    }
-
-    private static Object asked(Harbourmint x, String call, int a, int b, int c, int d, char m) {
-        switch (call) {
-            case "addHouse": return x.addHouse(m);
-            case "kindOf": return x.kindOf(a);
-            case "dig": return x.dig(a, m, b);
-            case "decree": return x.decree(m, a, b);
-            case "mint": return x.mint(a, m, b);
-            case "clip": return x.clip(a, b);
-            case "hoard": return x.hoard(a, b != 0);
-            case "recoin": return x.recoin(a, m);
-            case "pay": return x.pay(a, b, m, c);
-            case "deposit": return x.deposit(a, b, m, c);
-            case "withdraw": return x.withdraw(a, b, m, c);
-            case "lend": return x.lend(a, b, c);
-            case "hand": return x.hand(a, b, c, d);
-            case "forgive": return x.forgive(a, b, c);
-            case "claim": return x.claim(a, b);
-            case "draw": return x.draw(a, b, c, d);
-            case "endorse": return x.endorse(a, b);
-            case "holderOf": return x.holderOf(a);
-            case "nextDay": return x.nextDay();
-            case "addShare": return x.addShare(a, b, c);
-            case "throwOver": return x.throwOver(a, b, c);
-            case "coins": return x.coins(a, m);
-            case "weightOf": return x.weightOf(a);
-            case "ownerOf": return x.ownerOf(a);
-            case "owners": return x.owners(a);
-            case "ore": return x.ore(a, m);
-            case "wealth": return x.wealth(a);
-            case "lost": return x.lost();
-            case "lightShare": return x.lightShare();
-            case "meanWeight": return x.meanWeight();
-            default: return x.isSound();
         }
     }
 }
