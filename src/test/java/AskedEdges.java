@@ -288,7 +288,7 @@ final class AskedEdges {
         e.asks("meanWeight", 5.0);
     }
 
-    /** No run of calls makes a state that is not sound, so that no answer but true can be asked for. */
+    /** No run of calls makes a state that is not sound; SoundTest makes such states in another way. */
     private void isSound() {
         e.section("Promise 32: isSound");
         e.says("Returns whether all is sound: of each metal, what was dug is what ore and coins weigh; the claims "
